@@ -8,7 +8,7 @@ public final class SetAndRemoveTest {
         removedForGood();
         wrongRemovesChangeNothing();
         edgesOfIds();
-        moreCallsThanPromisedStillEnd();
+        atMost1024();
         check.end();
     }
 
@@ -111,10 +111,10 @@ public final class SetAndRemoveTest {
     }
 
     /**
-     * The limit of 1024 lies beyond the 512 calls that an object is good for, so that no answer here is promised;
-     * that the machine never throws is asked of every call.
+     * The limit of 1024 lies beyond the 512 calls that an object is good for, so no answer there is promised. The
+     * class keeps the limit all the same, since without it a later call would outgrow the room for IDs.
      */
-    private static void moreCallsThanPromisedStillEnd() {
+    private static void atMost1024() {
         ListWeave x = new ListWeave();
         for (int i = 0; i < 64; i++) {
             x.run(8 + 64 * i, 0, 8, 0);
