@@ -1,4 +1,7 @@
 import java.util.function.LongSupplier;
+import java.util.function.Predicate;
+import java.util.function.Supplier;
+import java.util.function.ToLongFunction;
 
 /** Counts and prints every answer that is not the one that is due. */
 final class Check {
@@ -7,13 +10,21 @@ final class Check {
     static final long THROWS_ARGUMENT = Long.MIN_VALUE + 2;
     static final long THROWS_OTHER = Long.MIN_VALUE + 3;
 
+    /** An object is good for 512 calls only, so of a long list at most so many rows and places are asked for. */
+    private static final int MOST_TOLD = 20;
+
+    private String sentence = "";
     private int wrong = 0;
+
+    /** The words of the document that the answers from here on are due by; they are printed with a wrong one. */
+    void sentence(String words) {
+        sentence = words;
+    }
 
     void due(String call, long want, LongSupplier got) {
         long answer = answerOf(got);
         if (answer != want) {
-            wrong++;
-            System.out.println(call + " answered " + told(answer) + ", due is " + told(want));
+            wrong(call + " answered " + told(answer) + ", due is " + told(want));
         }
     }
 
@@ -27,9 +38,22 @@ final class Check {
 
     void same(String what, String want, String got) {
         if (!want.equals(got)) {
-            wrong++;
-            System.out.println(what + ":\n  told " + got + "\n  due  " + want);
+            wrong(what + ":\n  told " + got + "\n  due  " + want);
         }
+    }
+
+    /** The operation answers false, and the list tells what one tells on which it was not tried. */
+    void refused(String call, Supplier<ListWeave> made, Predicate<ListWeave> operation) {
+        ListWeave list = made.get();
+        no(call, operation.test(list));
+        same("after the refused " + call, all(made.get()), all(list));
+    }
+
+    /** The call throws, and the list tells what one tells on which it was not tried. */
+    void thrown(String call, long want, Supplier<ListWeave> made, ToLongFunction<ListWeave> asked) {
+        ListWeave list = made.get();
+        due(call, want, () -> asked.applyAsLong(list));
+        same("after the thrown " + call, all(made.get()), all(list));
     }
 
     void end() {
@@ -37,6 +61,11 @@ final class Check {
         if (wrong != 0) {
             System.exit(1);
         }
+    }
+
+    private void wrong(String text) {
+        wrong++;
+        System.out.println((sentence.isEmpty() ? "" : "[" + sentence + "] ") + text);
     }
 
     static long answerOf(LongSupplier call) {
@@ -61,7 +90,7 @@ final class Check {
         return answer == THROWS_OTHER ? "throws another exception" : Long.toString(answer);
     }
 
-    /** All that a list tells, for lists of up to some twenty elements: an object is good for 512 calls only. */
+    /** All that a list tells; of a long one, evenly spread parts. */
     static String all(ListWeave list) {
         StringBuilder text = new StringBuilder();
         int rows = list.look(0);
@@ -71,7 +100,7 @@ final class Check {
         }
         text.append("size ").append(size).append(" begins ").append(list.of(0, 1));
         text.append(" sums ").append(list.sum(0, size)).append(' ').append(list.sum(1, size / 2 + 1));
-        for (int i = 0; i < rows; i++) {
+        for (int i = 0; i < rows; i += stepOver(rows)) {
             int row = list.row(i);
             int id = Math.abs(row);
             text.append(" | ").append(row).append(' ').append(list.place(id)).append(' ').append(list.ahead(id));
@@ -79,13 +108,17 @@ final class Check {
                 text.append(' ').append(list.of(id, what));
             }
         }
-        for (int place = 0; place < size; place++) {
+        for (int place = 0; place < size; place += stepOver(size)) {
             text.append(" @");
             for (int what = 0; what < 4; what++) {
                 text.append(' ').append(list.at(place, what));
             }
         }
         return text.toString();
+    }
+
+    private static int stepOver(int count) {
+        return Math.max(1, (count + MOST_TOLD - 1) / MOST_TOLD);
     }
 
     /** The IDs of all elements as they lie, below 0 if removed. */

@@ -1,26 +1,34 @@
 /** Promises 5 and 6: set and remove. */
 public final class SetAndRemoveTest {
     private static final Check check = new Check();
+    private static final int LEAST = Integer.MIN_VALUE;
+    private static final int GREATEST = Integer.MAX_VALUE;
+
+    private interface Change {
+        boolean doneOn(ListWeave x, int id, int element);
+    }
 
     public static void main(String[] args) {
         theGreatestStands();
-        wrongSetsChangeNothing();
         removedForGood();
-        wrongRemovesChangeNothing();
-        edgesOfIds();
+        removedAgain();
+        refusals("A SET: ", (x, id, element) -> x.set(id, element, 2, 9));
+        kindIsNone();
+        refusals("A REMOVE: likewise: ", (x, id, element) -> x.remove(id, element));
         atMost1024();
         check.end();
     }
 
     private static void theGreatestStands() {
+        check.sentence("A SET: true");
         ListWeave x = new ListWeave();
         x.insert(20, 0, 2, 1);
         check.yes("set(40, 20, 6, -5)", x.set(40, 20, 6, -5));
         stands(x, 40, 6, -5);
         check.yes("set(30, 20, 1, 7)", x.set(30, 20, 1, 7));
         stands(x, 40, 6, -5);
-        check.yes("set(41, 20, 0, least int)", x.set(41, 20, 0, Integer.MIN_VALUE));
-        stands(x, 41, 0, Integer.MIN_VALUE);
+        check.yes("set(41, 20, 0, least int)", x.set(41, 20, 0, LEAST));
+        stands(x, 41, 0, LEAST);
         check.due("of(20, 2)", 3, () -> x.of(20, 2));
         check.due("look(2)", 3, () -> x.look(2));
         check.yes("remove(50, 20)", x.remove(50, 20));
@@ -37,77 +45,92 @@ public final class SetAndRemoveTest {
         check.due("at(0, 3)", id, () -> x.at(0, 3));
     }
 
-    private static ListWeave four() {
-        ListWeave x = new ListWeave();
-        x.insert(20, 0, 2, 1);
-        x.insert(30, 20, 2, 2);
-        x.set(40, 20, 2, 3);
-        x.remove(50, 30);
-        return x;
-    }
-
-    private static void wrongSetsChangeNothing() {
-        ListWeave x = four();
-        String as = Check.all(x);
-        check.no("an element's ID", x.set(30, 20, 2, 9));
-        check.no("a SET's ID", x.set(40, 20, 2, 9));
-        check.no("a REMOVE's ID", x.set(50, 20, 2, 9));
-        check.no("of itself", x.set(21, 21, 2, 9));
-        check.no("of none", x.set(60, 25, 2, 9));
-        check.no("of the beginning", x.set(60, 0, 2, 9));
-        check.no("of a SET", x.set(60, 40, 2, 9));
-        check.no("of -20", x.set(60, -20, 2, 9));
-        check.no("not above the element", x.set(29, 30, 2, 9));
-        check.no("kind 7", x.set(60, 20, 7, 9));
-        check.no("kind -1", x.set(60, 20, -1, 9));
-        check.same("nothing changed", as, Check.all(x));
-        check.yes("the ID is still free", x.set(60, 20, 6, 9));
-        check.yes("kind 0", x.set(61, 20, 0, 9));
-    }
-
     private static void removedForGood() {
+        check.sentence("A REMOVE: likewise.");
         ListWeave x = new ListWeave();
         x.run(8, 0, 3, 0x010203);
         check.yes("remove(100, 16)", x.remove(100, 16));
         check.same("it stays in its place", "8 -16 24", Check.rows(x));
-        check.yes("remove(99, 16)", x.remove(99, 16));
-        check.due("of(16, 3)", 2, () -> x.of(16, 3));
+        check.due("of(16, 3)", 1, () -> x.of(16, 3));
         check.due("of(16, 2)", 0, () -> x.of(16, 2));
-        check.due("look(2)", 2, () -> x.look(2));
+        check.due("look(2)", 1, () -> x.look(2));
         check.due("size()", 2, x::size);
         check.due("sum(0, 2)", 4, () -> x.sum(0, 2));
-        check.no("its ID is not free again", x.insert(16, 8, 0, 0));
     }
 
-    private static void wrongRemovesChangeNothing() {
-        ListWeave x = four();
-        String as = Check.all(x);
-        check.no("an element's ID", x.remove(30, 20));
-        check.no("a SET's ID", x.remove(40, 20));
-        check.no("a REMOVE's ID", x.remove(50, 30));
-        check.no("by its own ID", x.remove(20, 20));
-        check.no("of none", x.remove(60, 25));
-        check.no("of the beginning", x.remove(60, 0));
-        check.no("of a REMOVE", x.remove(60, 50));
-        check.no("of -20", x.remove(60, -20));
-        check.no("not above the element", x.remove(29, 30));
-        check.same("nothing changed", as, Check.all(x));
-        check.yes("the ID is still free", x.remove(60, 20));
+    private static void removedAgain() {
+        check.sentence("(Of an element that is removed, too.)");
+        ListWeave x = Lists.five();
+        check.yes("by a greater ID", x.remove(60, 30));
+        check.yes("by a lesser ID", x.remove(32, 30));
+        check.due("of(30, 3)", 3, () -> x.of(30, 3));
+        check.due("look(2)", 6, () -> x.look(2));
+        check.due("size()", 3, x::size);
     }
 
-    private static void edgesOfIds() {
-        ListWeave x = new ListWeave();
-        x.insert(8, 0, 0, 0);
-        int[] none = {7, 0, -1, 800008, Integer.MIN_VALUE, Integer.MAX_VALUE};
+    private static void refusals(String operation, Change change) {
+        idIsNone(operation, change);
+        idWasThere(operation, change);
+        noSuchElement(operation, change);
+        notAboveIt(operation, change);
+    }
+
+    private static void idIsNone(String operation, Change change) {
+        check.sentence(operation + "false if id is no ID");
+        int[] none = {7, 0, -1, -20, LEAST, 800008, GREATEST};
         for (int id : none) {
-            check.no("set by " + id, x.set(id, 8, 0, 0));
-            check.no("remove by " + id, x.remove(id, 8));
+            check.refused("by " + id, Lists::five, x -> change.doneOn(x, id, 10));
         }
-        check.yes("set(9, 8, 0, 0)", x.set(9, 8, 0, 0));
-        check.yes("set(800007, 8, 0, 0)", x.set(800007, 8, 0, 0));
-        check.yes("remove(800006, 8)", x.remove(800006, 8));
-        check.yes("remove(10, 8)", x.remove(10, 8));
-        check.due("look(2)", 4, () -> x.look(2));
+        ListWeave x = Lists.one();
+        check.yes("by 9", change.doneOn(x, 9, 8));
+        check.yes("by 800007", change.doneOn(x, 800007, 8));
+        check.due("look(2)", 2, () -> x.look(2));
+        check.due("look(3)", 800007, () -> x.look(3));
+    }
+
+    private static void idWasThere(String operation, Change change) {
+        check.sentence(operation + "false if id .. was there");
+        int[] were = {20, 30, 31, 40, 50, 51, 52, 53};
+        for (int id : were) {
+            check.refused("by " + id, Lists::five, x -> change.doneOn(x, id, 10));
+        }
+        check.refused("by the ID of its own SET", Lists::five, x -> change.doneOn(x, 50, 31));
+        check.refused("by the ID of its own REMOVE", Lists::five, x -> change.doneOn(x, 52, 30));
+        check.yes("by one above all", change.doneOn(Lists.five(), 54, 10));
+        check.yes("by one between", change.doneOn(Lists.five(), 49, 10));
+    }
+
+    private static void noSuchElement(String operation, Change change) {
+        check.sentence(operation + "there is no such element");
+        int[] none = {0, 1, 7, 8, 9, 11, 50, 52, 59, -1, -10, -30, LEAST, GREATEST};
+        for (int element : none) {
+            check.refused("of " + element, Lists::five, x -> change.doneOn(x, 60, element));
+        }
+        check.refused("in an empty list", ListWeave::new, x -> change.doneOn(x, 60, 8));
+        int[] there = {10, 20, 30, 31, 40};
+        for (int element : there) {
+            check.yes("of " + element, change.doneOn(Lists.five(), 60, element));
+        }
+    }
+
+    private static void notAboveIt(String operation, Change change) {
+        check.sentence(operation + "id is not above it");
+        check.refused("one below", Lists::five, x -> change.doneOn(x, 39, 40));
+        check.refused("far below", Lists::five, x -> change.doneOn(x, 8, 40));
+        check.refused("the same", Lists::five, x -> change.doneOn(x, 40, 40));
+        check.refused("the same, no element", Lists::five, x -> change.doneOn(x, 21, 21));
+        check.yes("one above", change.doneOn(Lists.five(), 41, 40));
+    }
+
+    private static void kindIsNone() {
+        check.sentence("A SET: kind is none");
+        int[] none = {-1, 7, LEAST, GREATEST};
+        for (int kind : none) {
+            check.refused("kind " + kind, Lists::five, x -> x.set(60, 10, kind, 9));
+            check.refused("kind " + kind + " below what stands", Lists::five, x -> x.set(49, 31, kind, 9));
+        }
+        check.yes("kind 0", Lists.five().set(60, 10, 0, 9));
+        check.yes("kind 6", Lists.five().set(60, 10, 6, 9));
     }
 
     /**
@@ -115,10 +138,8 @@ public final class SetAndRemoveTest {
      * class keeps the limit all the same, since without it a later call would outgrow the room for IDs.
      */
     private static void atMost1024() {
-        ListWeave x = new ListWeave();
-        for (int i = 0; i < 64; i++) {
-            x.run(8 + 64 * i, 0, 8, 0);
-        }
+        check.sentence("or 1024 SETs and REMOVES have been done");
+        ListWeave x = Lists.full();
         for (int i = 0; i < 1024; i++) {
             int id = 10000 + i;
             check.yes("change " + i, i % 2 == 0 ? x.set(id, 8, 0, i) : x.remove(id, 16));
@@ -128,5 +149,8 @@ public final class SetAndRemoveTest {
         check.no("insert number 512", x.insert(20000, 8, 0, 0));
         check.due("look(2)", 1024, () -> x.look(2));
         check.due("look(3)", 11023, () -> x.look(3));
+        x.clear();
+        x.insert(8, 0, 0, 0);
+        check.yes("set after clear()", x.set(20000, 8, 0, 0));
     }
 }
