@@ -41,7 +41,7 @@ public final class TermsTest {
         atMost512Elements();
         removedOnesCountAmong512();
         everyIdIsThereOnce();
-        notEachIdOfARunTwice();
+        noIdOfARunTwice();
         placesFrom0();
         falseChangesNothing();
         whatWasRefusedCanBeDoneLater();
@@ -264,7 +264,7 @@ public final class TermsTest {
         return x;
     }
 
-    private static void notEachIdOfARunTwice() {
+    private static void noIdOfARunTwice() {
         check.sentence("every operation's ID is there once (each of a run)");
         for (Operation operation : OPERATIONS) {
             String name = operation.name();
